@@ -1,0 +1,62 @@
+import java.nio.charset.StandardCharsets;
+import java.util.Arrays;
+
+/** Compares answers with those that are due and ends a test. */
+final class Checks {
+    private final String test;
+    private int wrong = 0;
+    private int all = 0;
+
+    Checks(String test) {
+        this.test = test;
+    }
+
+    void due(String call, long got, long want) {
+        all++;
+        if (got != want) {
+            wrong++;
+            System.out.println(test + ": " + call + " answered " + got + ", due is " + want);
+        }
+    }
+
+    /** Ends the program with 1 if an answer was not as due. */
+    void finish() {
+        System.out.println(test + ": " + all + " answers, " + wrong + " not as due");
+        if (wrong != 0) {
+            System.exit(1);
+        }
+    }
+
+    /** Puts a text on the tape, behind what is there. */
+    static void write(CountGates x, String text) {
+        write(x, text.getBytes(StandardCharsets.ISO_8859_1));
+    }
+
+    static void write(CountGates x, byte[] bytes) {
+        int stop = x.count(6) + bytes.length;
+        byte[] padded = Arrays.copyOf(bytes, (bytes.length + 19) / 20 * 20);
+        for (int i = 0; i < padded.length; i += 20) {
+            x.feed(four(padded, i), four(padded, i + 4), four(padded, i + 8), four(padded, i + 12), four(padded, i + 16));
+        }
+        x.end(stop);
+    }
+
+    private static int four(byte[] bytes, int i) {
+        return (bytes[i] & 255) << 24 | (bytes[i + 1] & 255) << 16 | (bytes[i + 2] & 255) << 8 | bytes[i + 3] & 255;
+    }
+
+    static int law(CountGates x, String text) {
+        write(x, text);
+        return x.law();
+    }
+
+    static int orders(CountGates x, String text) {
+        write(x, text);
+        return x.orders();
+    }
+
+    /** A law that is in force at once. */
+    static void force(CountGates x, String text) {
+        x.force(law(x, text));
+    }
+}
