@@ -165,9 +165,9 @@ public final class CountGates {
         }
         asker.regard(state, goer, gate, many);
         switch (what) {
-            case 0: return asker.comesOut(state);
-            case 1: return asker.toll(state);
-            case 2: return asker.barred(state) ? 1 : 0;
+            case 0: return asker.told(state, TURNS);
+            case 1: return asker.told(state, PAYS);
+            case 2: return asker.told(state, BARS);
             default: return NONE;
         }
     }
@@ -1030,44 +1030,37 @@ public final class CountGates {
                 now++;
                 return true;
             }
-            return asOrders ? orderWord() : lawWord();
-        }
-
-        private boolean lawWord() {
-            int word = here();
-            if (word < W_KIND || word > W_MOOD) {
+            int word = asOrders ? orderWord() : lawWord();
+            if (word == NONE) {
                 return faulty();
             }
-            text.add(WORD, word - W_KIND);
-            now++;
-            return true;
-        }
-
-        private boolean orderWord() {
-            switch (here()) {
-                case W_DAY: return plainWord(ORDER_DAY);
-                case W_DONE: return plainWord(ORDER_DONE);
-                case W_LATEST: return plainWord(ORDER_LATEST);
-                case W_WHOLE: return plainWord(ORDER_WHOLE);
-                case W_MANY: return numberedWord(ORDER_MANY, GOERS);
-                case W_PARK: return numberedWord(ORDER_PARK, GOERS);
-                case W_ARM: return numberedWord(ORDER_ARM, GATES);
-                default: return faulty();
-            }
-        }
-
-        private boolean plainWord(int word) {
             text.add(WORD, word);
             now++;
             return true;
         }
 
-        private boolean numberedWord(int first, int limit) {
-            now++;
-            if (here() != NUMBER || value[now] >= limit) {
-                return faulty();
+        private int lawWord() {
+            int word = here();
+            return word >= W_KIND && word <= W_MOOD ? word - W_KIND : NONE;
+        }
+
+        private int orderWord() {
+            switch (here()) {
+                case W_DAY: return ORDER_DAY;
+                case W_DONE: return ORDER_DONE;
+                case W_LATEST: return ORDER_LATEST;
+                case W_WHOLE: return ORDER_WHOLE;
+                case W_MANY: return numberedWord(ORDER_MANY, GOERS);
+                case W_PARK: return numberedWord(ORDER_PARK, GOERS);
+                case W_ARM: return numberedWord(ORDER_ARM, GATES);
+                default: return NONE;
             }
-            return plainWord(first + value[now]);
+        }
+
+        /** Goes on to the number, where the FAULT is if it can't be. */
+        private int numberedWord(int first, int limit) {
+            now++;
+            return here() == NUMBER && value[now] < limit ? first + value[now] : NONE;
         }
     }
 
@@ -1096,35 +1089,22 @@ public final class CountGates {
             words[7] = state.terms[MOOD];
         }
 
-        int comesOut(State state) {
-            int told = lastTold(state.inForce(), TURNS);
-            if (told == BROKEN) {
-                return Math.max(words[LAW_MANY] - 1, 0);
-            }
-            return Math.max(0, Math.min(told, MANYS - 1));
-        }
-
-        int toll(State state) {
-            int told = lastTold(state.inForce(), PAYS);
-            return told == BROKEN ? 1 : Math.max(0, Math.min(told, MOST_TOLL));
-        }
-
-        boolean barred(State state) {
-            return lastTold(state.inForce(), BARS) != BROKEN;
-        }
-
-        /** BROKEN, if no CLAUSE of this verb HOLDS. */
-        private int lastTold(Text law, int verb) {
+        /** As how many one comes out (TURNS), what one PAYS, whether one is barred (BARS: 1, 0). */
+        int told(State state, int verb) {
             int told = BROKEN;
-            if (law == null) {
-                return told;
-            }
-            for (int c = law.clauses - 1; c >= 0 && told == BROKEN; c--) {
-                if (law.verb[c] == verb && (!law.has(c, 2) || law.reckon(c, 2, words, stack) == 1)) {
-                    told = verb == BARS ? 0 : law.reckon(c, 0, words, stack);
+            Text law = state.inForce();
+            if (law != null) {
+                for (int c = law.clauses - 1; c >= 0 && told == BROKEN; c--) {
+                    if (law.verb[c] == verb && (!law.has(c, 2) || law.reckon(c, 2, words, stack) == 1)) {
+                        told = verb == BARS ? 1 : law.reckon(c, 0, words, stack);
+                    }
                 }
             }
-            return told;
+            switch (verb) {
+                case TURNS: return told == BROKEN ? Math.max(words[LAW_MANY] - 1, 0) : Math.max(0, Math.min(told, MANYS - 1));
+                case PAYS: return told == BROKEN ? 1 : Math.max(0, Math.min(told, MOST_TOLL));
+                default: return told == BROKEN ? 0 : 1;
+            }
         }
 
         boolean can(State state, int goer, int gate) {
@@ -1132,7 +1112,7 @@ public final class CountGates {
                 return false;
             }
             regard(state, goer, gate, state.many[goer]);
-            return !barred(state);
+            return told(state, BARS) == 0;
         }
 
         int canBits(State state, int goer) {
@@ -1145,17 +1125,14 @@ public final class CountGates {
             return bits;
         }
 
-        /** Whether the GOER went. */
-        boolean walk(State state, int goer, int gate) {
-            if (!can(state, goer, gate)) {
-                return false;
-            }
-            int many = comesOut(state);
-            int toll = toll(state);
+        /** Lets a GOER who CAN go. */
+        void move(State state, int goer, int gate) {
+            regard(state, goer, gate, state.many[goer]);
+            int many = told(state, TURNS);
+            int toll = told(state, PAYS);
             state.park[goer] = state.to[gate];
             state.many[goer] = many;
             state.paid[goer] = Math.min(state.paid[goer] + toll, MOST_PAID);
-            return true;
         }
 
         /** AGAIN: the STEPS ahead, or after how many it comes each time. */
@@ -1168,7 +1145,7 @@ public final class CountGates {
                 }
                 firstTime[many] = step;
                 regard(state, goer, gate, many);
-                many = comesOut(state);
+                many = told(state, TURNS);
             }
             return NONE;
         }
@@ -1196,13 +1173,11 @@ public final class CountGates {
             if (!state.hasGoer(goer) || !state.hasGate(gate)) {
                 return NO_SUCH;
             }
-            int park = state.park[goer];
-            int many = state.many[goer];
-            int paid = state.paid[goer];
-            if (!asker.walk(state, goer, gate)) {
+            if (!asker.can(state, goer, gate)) {
                 return CANNOT;
             }
-            keep(GO, goer, park, many, paid);
+            keep(GO, goer, state.park[goer], state.many[goer], state.paid[goer]);
+            asker.move(state, goer, gate);
             return state.many[goer];
         }
 
@@ -1326,24 +1301,21 @@ public final class CountGates {
             if (first == BROKEN || second == BROKEN) {
                 return false;
             }
-            int told = act(text.verb[clause], first, second);
+            int told;
+            switch (text.verb[clause]) {
+                case GO:
+                    told = doer.sendThrough(first, second);
+                    latest = told;
+                    break;
+                case LATCH: told = doer.flip(first); break;
+                case SET: told = doer.changeArm(first, second); break;
+                default: told = doer.nextDay(); break;
+            }
             if (told < 0) {
                 return false;
             }
-            if (text.verb[clause] == GO) {
-                latest = told;
-            }
             done++;
             return true;
-        }
-
-        private int act(int verb, int first, int second) {
-            switch (verb) {
-                case GO: return doer.sendThrough(first, second);
-                case LATCH: return doer.flip(first);
-                case SET: return doer.changeArm(first, second);
-                default: return doer.nextDay();
-            }
         }
 
         private void lookRound() {
@@ -1423,7 +1395,7 @@ public final class CountGates {
             int asked = gate * MANYS + many;
             if (outs[asked] == UNASKED) {
                 asker.regard(paper, goer, gate, many);
-                outs[asked] = asker.barred(paper) ? NONE : asker.comesOut(paper);
+                outs[asked] = asker.told(paper, BARS) == 1 ? NONE : asker.told(paper, TURNS);
             }
             return outs[asked] == NONE ? NONE : paper.to[gate] * MANYS + outs[asked];
         }
@@ -1441,8 +1413,9 @@ public final class CountGates {
             }
             int queued = 1;
             for (int i = 0; i < queued && i < PLACES; i++) {
+                int parkHere = queue[i] / MANYS;
                 for (int gate = 0; gate < paper.gates; gate++) {
-                    int then = behind(gate, queue[i]);
+                    int then = paper.from[gate] == parkHere ? behind(gate, queue[i]) : NONE;
                     if (then == NONE || steps[then] != NONE || queued >= PLACES) {
                         continue;
                     }
@@ -1535,7 +1508,7 @@ public final class CountGates {
                 return;
             }
             asker.regard(paper, goer, gate, place % MANYS);
-            int toll = tolls[place] + asker.toll(paper);
+            int toll = tolls[place] + asker.told(paper, PAYS);
             if (tolls[then] == NONE || toll < tolls[then]) {
                 tolls[then] = toll;
             }
@@ -1660,7 +1633,7 @@ public final class CountGates {
 
         private int comesOut(State state, int kind, int arm, int many) {
             asker.regardUnknown(state, kind, arm, many);
-            return asker.barred(state) ? NONE : asker.comesOut(state);
+            return asker.told(state, BARS) == 1 ? NONE : asker.told(state, TURNS);
         }
 
         int possible(State state) {
@@ -1742,7 +1715,8 @@ public final class CountGates {
             for (int k = 0; k < n && paper.terms[DAY] < LAST_DAY; k++) {
                 int goer = draw(paper.goers);
                 int gate = draw(paper.gates);
-                if (paper.hasGoer(goer) && paper.hasGate(gate) && asker.walk(paper, goer, gate)) {
+                if (paper.hasGoer(goer) && paper.hasGate(gate) && asker.can(paper, goer, gate)) {
+                    asker.move(paper, goer, gate);
                     went++;
                 }
                 paper.terms[DAY]++;
