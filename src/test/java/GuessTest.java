@@ -61,6 +61,8 @@ public final class GuessTest {
         due("arm 10", x.ask(10, 0), -1);
         due("arm -1", x.ask(-1, 0), -1);
         due("all alike", x.ask(9, 1), 8);
+        Checks.force(x, "turns 0; turns kind if many > 19");
+        due("none beyond 19", x.ask(0, 1), 8);
         Checks.force(x, "turns 0; turns kind / 4 + 1 if many = 3; turns kind % 4 + arm if many = 7; bars if many = 12 and kind > 2");
         due("two alike at the most", x.ask(0, 1), 2);
         due("as 7", x.ask(0, 0), 7);

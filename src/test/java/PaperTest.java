@@ -248,6 +248,8 @@ public final class PaperTest {
         z.goer(0, 0, 0);
         Checks.force(z, "turns arm * 2");
         due("as one who is none", z.fixed(0, 1, 14), 7);
+        Checks.force(z, "bars if arm < 10");
+        due("no arm beyond 9", z.fixed(0, 1, -1), -1);
     }
 
     private static void cut() {

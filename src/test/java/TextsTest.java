@@ -194,6 +194,8 @@ public final class TextsTest {
         lawFault("bars" + " ".repeat(396), -1);
         lawFault("bars" + " ".repeat(395) + "x", 399);
         lawFault("(".repeat(400), 0);
+        lawFault(" ".repeat(399) + ")", 399);
+        lawFault(" ".repeat(396) + "bars", -1);
         lawFault("bars;" + ";".repeat(395), 5);
     }
 
