@@ -7,6 +7,7 @@ public final class PaperTest {
         wayIsTheFirst();
         wayRoundAbout();
         cheap();
+        allPlaces();
         manysAndReach();
         ways();
         likely();
@@ -115,6 +116,22 @@ public final class PaperTest {
         Checks.force(y, "pays many if gate = 0; pays 0 if gate = 1; turns many if gate = 0");
         due("cheaper by going round for nothing", y.cheap(0, 1, -1), 0);
         due("as 2", y.cheap(0, 1, 2), 2);
+    }
+
+    /** Each park as each many, the last one the dearest of all. */
+    private static void allPlaces() {
+        CountGates x = new CountGates();
+        for (int park = 0; park < 6; park++) {
+            x.gate(0, park, 0, 0);
+        }
+        x.goer(0, 0, 0);
+        Checks.force(x, "turns many; turns [many + 1] % 20 if gate = 0; pays gate + 1; pays 9 if gate = 5");
+        due("reach", x.reach(0), 63);
+        for (int park = 0; park < 6; park++) {
+            due("manys " + park, x.manys(0, park), (1 << 20) - 1);
+        }
+        due("the dearest", x.cheap(0, 5, 19), 28);
+        due("the longest", x.way(0, 5, 19, -1), 20);
     }
 
     private static void manysAndReach() {
