@@ -1,9 +1,16 @@
+import java.io.IOException;
+import java.io.UncheckedIOException;
 import java.nio.charset.StandardCharsets;
+import java.nio.file.Files;
+import java.nio.file.Path;
 import java.util.Arrays;
 
 /** Compares answers with those that are due and ends a test. */
 final class Checks {
+    private static final Path DOCUMENT = Path.of("..", "shared", "DOC.md");
     private final String test;
+    private String document = null;
+    private String sentence = "";
     private int wrong = 0;
     private int all = 0;
 
@@ -15,8 +22,21 @@ final class Checks {
         all++;
         if (got != want) {
             wrong++;
-            System.out.println(test + ": " + call + " answered " + got + ", due is " + want);
+            System.out.println(test + ": " + sentence + call + " answered " + got + ", due is " + want);
         }
+    }
+
+    /** What comes next tests these words, which must be the document's own. */
+    void sentence(String words) {
+        sentence = "\"" + words + "\": ";
+        if (document == null) {
+            try {
+                document = Files.readString(DOCUMENT);
+            } catch (IOException e) {
+                throw new UncheckedIOException(e);
+            }
+        }
+        due("the document says it", document.contains(words) ? 1 : 0, 1);
     }
 
     /** Ends the program with 1 if an answer was not as due. */
