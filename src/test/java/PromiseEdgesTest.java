@@ -442,6 +442,46 @@ public final class PromiseEdgesTest {
         due("fifteen", x.count(5), 15);
         x.pass();
         due("what was undone can't be undone", x.count(5), 16);
+        undoneEach();
+    }
+
+    /** Seventeen steps of which each is another one; all but the first are undone, each as it was ahead. */
+    private static void undoneEach() {
+        CountGates x = new CountGates();
+        for (int i = 0; i < 4; i++) {
+            x.gate(i, i + 1, 0, i);
+            x.goer(i, 10 + i, 0);
+        }
+        x.pass();
+        String[] ahead = new String[16];
+        for (int i = 0; i < 16; i++) {
+            ahead[i] = steps(x);
+            if (i % 4 == 0) {
+                x.go(i / 4, i / 4);
+            } else if (i % 4 == 1) {
+                x.latch(i / 4);
+            } else if (i % 4 == 2) {
+                x.set(i / 4, 9 - i / 4);
+            } else {
+                x.pass();
+            }
+        }
+        for (int i = 15; i >= 0; i--) {
+            due("undo " + i, x.undo(), i % 4);
+            due("as it was ahead of " + i, steps(x).equals(ahead[i]) ? 1 : 0, 1);
+        }
+        due("the first is not kept", x.undo(), -3);
+        due("the first day stays", x.count(13), 1);
+    }
+
+    /** All that steps change of four gates and four goers, in 21 calls. */
+    private static String steps(CountGates x) {
+        StringBuilder all = new StringBuilder().append(x.count(13));
+        for (int i = 0; i < 4; i++) {
+            all.append(' ').append(x.at(i, 3)).append(' ').append(x.at(i, 4));
+            all.append(' ').append(x.of(i, 0)).append(' ').append(x.of(i, 1)).append(' ').append(x.of(i, 3));
+        }
+        return all.toString();
     }
 
     private static void undoEnds() {

@@ -35,6 +35,7 @@ public final class TermEdgesTest {
         daysEndAtTheLast();
         rows();
         images();
+        imagesOfAll();
         CHECKS.finish();
     }
 
@@ -379,6 +380,13 @@ public final class TermEdgesTest {
         y.goer(0, 19, 0);
         Checks.force(y, "pays 100");
         due("the dearest row", y.cheap(0, 0, 0), 19 * 9);
+        CountGates z = new CountGates();
+        z.gate(0, 2, 0, 0);
+        z.gate(0, 1, 0, 0);
+        z.gate(1, 2, 0, 0);
+        z.goer(0, 9, 0);
+        Checks.force(z, "turns 4; pays 9; pays many / 4 if gate > 0");
+        due("two cheap ones, 9 / 4 and 4 / 4, not the dear one", z.cheap(0, 2, 4), 3);
     }
 
     private static void manysAndReachAtEnds() {
@@ -394,6 +402,8 @@ public final class TermEdgesTest {
         x.goer(5, 0, 0);
         due("the last alone", x.reach(1), 32);
         due("there now as 0", x.manys(1, 5), 1);
+        x.goer(0, 0, 0);
+        due("the first alone", x.reach(2), 1);
     }
 
     private static void waysAtEnds() {
@@ -487,6 +497,31 @@ public final class TermEdgesTest {
         z.goer(0, 5, 0);
         Checks.force(z, "turns many; bars if not arm = 0");
         due("the arm it has is no other one", z.fixed(0, 0, 4), -1);
+        due("by arm 0", fixedByTheLowestArm(), 0);
+        due("one gate's arm alone", fixedByOneAlone(), 14);
+        due("of one who is none", fixedOfNone(), 7);
+    }
+
+    private static int fixedByTheLowestArm() {
+        CountGates x = new CountGates();
+        x.gate(0, 1, 0, 5);
+        x.goer(0, 5, 0);
+        Checks.force(x, "bars if arm > 0");
+        return x.fixed(0, 1, -1);
+    }
+
+    /** Gate 0 must keep its arm, while gate 1 needs another. */
+    private static int fixedByOneAlone() {
+        CountGates x = one(5);
+        x.gate(1, 2, 0, 0);
+        Checks.force(x, "bars if gate = 0 and arm > 0; bars if gate = 1 and arm < 4");
+        return x.fixed(0, 2, -1);
+    }
+
+    private static int fixedOfNone() {
+        CountGates x = one(0);
+        Checks.force(x, "turns arm");
+        return x.fixed(0, 1, 7);
     }
 
     private static void cutAtEnds() {
@@ -571,6 +606,9 @@ public final class TermEdgesTest {
         due("the last", x.ask(0, 0), 19);
         Checks.force(x, "turns kind; bars if kind > 2");
         due("five barred are alike", x.ask(0, 1), 5);
+        x.seen(0, 0, 0);
+        due("the first kind alone", x.ask(0, 1), 1);
+        x.forget();
         x.seen(0, 0, 2);
         due("one kind alone", x.ask(0, 1), 1);
         due("as 0", x.ask(0, 0), 0);
@@ -741,5 +779,45 @@ public final class TermEdgesTest {
         y.latch(0);
         y.back(0);
         due("and once more", Snapshot.of(y).equals(ahead) ? 1 : 0, 1);
+    }
+
+    /** Two worlds that differ in all that can be, and back and forth between them. */
+    private static void imagesOfAll() {
+        sentence("all that it keeps is as it was then");
+        CountGates x = new CountGates();
+        x.image(1);
+        world(x, 1);
+        x.image(0);
+        String first = Snapshot.of(x);
+        x.back(1);
+        world(x, 2);
+        x.image(1);
+        String second = Snapshot.of(x);
+        due("they differ", first.equals(second) ? 1 : 0, 0);
+        x.back(0);
+        due("as the first was", Snapshot.of(x).equals(first) ? 1 : 0, 1);
+        x.back(1);
+        due("as the second was", Snapshot.of(x).equals(second) ? 1 : 0, 1);
+    }
+
+    private static void world(CountGates x, int n) {
+        for (int i = 0; i < 5 * n; i++) {
+            x.gate(i % 2 + n, (i + 1) % 2 + n, 2 * n + 1, i % 5 + n);
+        }
+        for (int i = 0; i < 2 * n; i++) {
+            x.goer(n, 7 * n + i, n);
+        }
+        Checks.law(x, "bars if hurry = 0");
+        Checks.law(x, "turns many + " + n + " * arm; pays kind; turns [kind + arm + many] % 20 if gate < 0");
+        x.force(1);
+        for (int i = 0; i < 3 * n; i++) {
+            x.seen(n, 5, (2 * n + 1 + n + 5) % 20);
+        }
+        x.go(0, 1 - n % 2);
+        x.go(0, n % 2);
+        x.latch(n);
+        x.terms(1, n + 1);
+        x.terms(2, n + 2);
+        x.terms(0, n);
     }
 }

@@ -144,10 +144,22 @@ public final class TextEdgesTest {
         fault("turns many{", 10);
         fault("turns many`", 10);
         fault("turns 1:", 7);
+        fault("barsz", 0);
+        fault("abars", 0);
+        fault("bars z", 5);
+        fault("bars bar", 5);
+        fault("turns 09", -1);
+        fault("turns 9z", 7);
         for (int other : new int[] {0, 9, 10, 13, 31, 33, 127, 128, 160, 255}) {
             fault("bars" + (char) other, 4);
             fault("turns 1" + (char) other + "+ 1", 7);
+            fault("turns " + (char) other, 6);
+            faultOfOrders("latch " + (char) other, 6);
         }
+        fault("(".repeat(400), 0);
+        fault("bars" + ";".repeat(396), 5);
+        fault("bars if " + "(1=1)".repeat(78), 13);
+        fault("1 ".repeat(200), 0);
     }
 
     private static void twelveClauses() {
@@ -249,16 +261,21 @@ public final class TextEdgesTest {
         fault("bars if 1 = 1 = 1", 14);
         due("many nots, even", told("bars if " + "not ".repeat(96) + "1=1", 5, 2), 1);
         due("many nots, odd", told("bars if " + "not ".repeat(97) + "1=1", 5, 2), 0);
+        due("not so and so", told("bars if not 1 = 1 and 1 = 1", 5, 2), 0);
+        due("not (not so) and so", told("bars if not (not 1 = 1) and 1 = 1", 5, 2), 1);
+        due("not so or so", told("bars if not 1 = 1 or 1 = 1", 5, 2), 1);
         sentence("PART: NUMBER (to 1,000) | \"[\" SUM \"]\" | a word, as told.");
         fault("turns -1", 6);
         fault("turns [-1]", 7);
         fault("turns []", 7);
         fault("turns if", 6);
         fault("turns turns", 6);
-        fault("turns latest", 6);
-        faultOfOrders("latch hurry", 6);
-        faultOfOrders("latch gate", 6);
-        faultOfOrders("latch pass", 6);
+        for (String other : new String[] {"done", "latest", "whole", "park", "turns", "pass", "if", "or", "times", "x"}) {
+            fault("turns " + other, 6);
+        }
+        for (String other : new String[] {"kind", "hurry", "gate", "goer", "mood", "latch", "bars", "if", "or", "by", "x"}) {
+            faultOfOrders("latch " + other, 6);
+        }
     }
 
     private static void farthestSums() {
@@ -386,11 +403,11 @@ public final class TextEdgesTest {
         x.gate(0, 0, 0, 0);
         x.goer(0, 0, 3);
         Checks.force(x, "turns 19 if gate = 0 - 1 and goer = 0 - 1 and hurry = 0; turns kind if arm = 9 and many = 19");
+        due("of a gate and a goer that are known", x.asks(0, 0, 5, 0), 4);
         x.seen(0, 5, 19);
         due("all kinds", x.kinds(), 255);
         x.seen(9, 19, 7);
         due("the last kind", x.kinds(), 128);
-        due("of a gate and a goer that are known", x.asks(0, 0, 5, 0), 4);
     }
 
     private static void holds() {
