@@ -308,6 +308,11 @@ public final class PromiseEdgesTest {
         due("a fault ahead of all", Checks.orders(x, "pass;latch 2;pass pass"), -6);
         due("empty behind a fault", x.count(6), 0);
         due("a day", x.count(13), 1);
+        String fullest = "pass if " + "1=1 and ".repeat(23) + "1=1 or 1=2";
+        for (int i = 0; i < 12; i++) {
+            due("as often as one likes", Checks.orders(x, fullest), 1);
+        }
+        due("a day each time", x.count(13), 13);
     }
 
     private static void fault() {
@@ -449,8 +454,8 @@ public final class PromiseEdgesTest {
     private static void undoneEach() {
         CountGates x = new CountGates();
         for (int i = 0; i < 4; i++) {
-            x.gate(i, i + 1, 0, i);
-            x.goer(i, 10 + i, 0);
+            x.gate(i + 1, i + 2, 0, i + 2);
+            x.goer(i + 1, 10 + i, 0);
         }
         x.pass();
         String[] ahead = new String[16];

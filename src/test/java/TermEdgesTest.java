@@ -404,6 +404,14 @@ public final class TermEdgesTest {
         due("there now as 0", x.manys(1, 5), 1);
         x.goer(0, 0, 0);
         due("the first alone", x.reach(2), 1);
+        CountGates y = new CountGates();
+        y.gate(3, 2, 0, 0);
+        y.goer(3, 5, 0);
+        Checks.force(y, "bars");
+        due("where it is alone, as barred", y.reach(0), 8);
+        due("not to the first as 0", y.way(0, 0, 0, -1), -1);
+        due("nor by steps", y.likely(0, 3, 5, 1), WHOLE);
+        due("nor in any row", y.ways(0, 0, 0, 1), 0);
     }
 
     private static void waysAtEnds() {
@@ -578,6 +586,9 @@ public final class TermEdgesTest {
         z.goer(0, 4, 0);
         due("where the other is, as it is", z.meet(0, 1, 0), 4);
         due("the longer of 5 and 0", z.meet(0, 1, 1), 5);
+        z.goer(0, 0, 0);
+        due("park 0 as 0", z.meet(0, 2, 0), 0);
+        due("the longer of 9 and 0", z.meet(0, 2, 1), 9);
     }
 
     private static void kindsAtEnds() {
@@ -604,6 +615,9 @@ public final class TermEdgesTest {
         due("one of each", x.ask(0, 1), 1);
         Checks.force(x, "turns 0; turns kind if many = 19");
         due("the last", x.ask(0, 0), 19);
+        Checks.force(x, "turns 0; turns kind if many > 19 or many < 0");
+        due("none but 0 .. 19", x.ask(0, 0), 0);
+        due("all alike from 0 to 19", x.ask(0, 1), 8);
         Checks.force(x, "turns kind; bars if kind > 2");
         due("five barred are alike", x.ask(0, 1), 5);
         x.seen(0, 0, 0);
@@ -794,6 +808,7 @@ public final class TermEdgesTest {
         x.image(1);
         String second = Snapshot.of(x);
         due("they differ", first.equals(second) ? 1 : 0, 0);
+        due("a kind that it can be", x.kinds(), 1 << 5);
         x.back(0);
         due("as the first was", Snapshot.of(x).equals(first) ? 1 : 0, 1);
         x.back(1);
@@ -811,7 +826,7 @@ public final class TermEdgesTest {
         Checks.law(x, "turns many + " + n + " * arm; pays kind; turns [kind + arm + many] % 20 if gate < 0");
         x.force(1);
         for (int i = 0; i < 3 * n; i++) {
-            x.seen(n, 5, (2 * n + 1 + n + 5) % 20);
+            x.seen(n, 4 * n, (2 * n + 1 + n + 4 * n) % 20);
         }
         x.go(0, 1 - n % 2);
         x.go(0, n % 2);

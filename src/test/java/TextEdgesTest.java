@@ -227,6 +227,10 @@ public final class TextEdgesTest {
         fine("turns " + "[1]+".repeat(20) + "1");
         fineOrders("latch " + "[".repeat(8) + "1" + "]".repeat(8));
         faultOfOrders("latch " + "[".repeat(9) + "1" + "]".repeat(9), 14);
+        fineOrders("go " + "[".repeat(8) + "1" + "]".repeat(8) + " by " + "[".repeat(8) + "1" + "]".repeat(8));
+        faultOfOrders("go 1 by " + "[".repeat(9) + "1" + "]".repeat(9), 16);
+        fineOrders("set " + "[".repeat(8) + "1" + "]".repeat(8) + " as " + "[".repeat(8) + "1" + "]".repeat(8));
+        faultOfOrders("set 1 as " + "[".repeat(9) + "1" + "]".repeat(9), 17);
         fault("turns " + "[".repeat(394), 14);
         fault("bars if " + "not(".repeat(98), 8 + 4 * 8 + 3);
     }
