@@ -313,6 +313,7 @@ public final class PromiseEdgesTest {
             due("as often as one likes", Checks.orders(x, fullest), 1);
         }
         due("a day each time", x.count(13), 13);
+        due("the last's test is asked, too", Checks.orders(x, "pass if 1 = 2"), 0);
     }
 
     private static void fault() {
