@@ -9,12 +9,15 @@ public final class OracleTest {
     private final CountGates x = new CountGates();
     private final Oracle o = new Oracle();
     private final String name;
+    /** Few parks, many gates and lively laws, so that there are ways to find; else whatever comes. */
+    private final boolean busy;
 
     private OracleTest(Checks checks, long seed) {
         this.checks = checks;
         random = new Random(seed);
         texts = new Texts(random);
         name = "seed " + seed + " ";
+        busy = seed % 3 != 0;
     }
 
     public static void main(String[] args) {
@@ -51,17 +54,30 @@ public final class OracleTest {
         return oneIn(2) ? -1 : upTo(19);
     }
 
+    private int aPark() {
+        return busy && !oneIn(8) || !oneIn(3) ? upTo(2) : upTo(5);
+    }
+
+    /** A gate that the goer mostly can go through, if it is busy and there is one. */
+    private int aGateFor(int goer) {
+        int gate = aGate();
+        for (int i = 0; i < 10 && busy && o.hasGoer(goer) && o.hasGate(gate) && !o.w.can(goer, gate); i++) {
+            gate = random.nextInt(o.w.gates.size());
+        }
+        return gate;
+    }
+
     private void due(String call, long got, long want) {
         checks.due(name + call, got, want);
     }
 
     private void run() {
         int calls = 0;
-        int gates = random.nextInt(oneIn(3) ? 11 : 7);
+        int gates = busy ? 4 + random.nextInt(8) : random.nextInt(oneIn(3) ? 11 : 7);
         for (; calls < gates; calls++) {
             makeGate();
         }
-        for (int i = random.nextInt(6); i > 0; i--, calls++) {
+        for (int i = busy ? 2 + random.nextInt(4) : random.nextInt(6); i > 0; i--, calls++) {
             makeGoer();
         }
         while (calls < 470) {
@@ -82,12 +98,12 @@ public final class OracleTest {
     }
 
     private void makeGate() {
-        int from = upTo(oneIn(3) ? 5 : 2), to = upTo(oneIn(3) ? 5 : 2), kind = upTo(7), arm = upTo(9);
+        int from = aPark(), to = aPark(), kind = upTo(7), arm = upTo(9);
         due("gate", x.gate(from, to, kind, arm), o.gate(from, to, kind, arm));
     }
 
     private void makeGoer() {
-        int park = upTo(oneIn(3) ? 5 : 2), many = upTo(19), hurry = upTo(3);
+        int park = aPark(), many = upTo(19), hurry = upTo(3);
         due("goer", x.goer(park, many, hurry), o.goer(park, many, hurry));
     }
 
@@ -97,7 +113,8 @@ public final class OracleTest {
             return gateRow();
         }
         boolean law = which < 5;
-        String text = law ? texts.law() : texts.orders();
+        String text = busy && !oneIn(4) ? law ? texts.livelyLaw() : texts.livelyOrders(aGateFor(0))
+                : law ? texts.law() : texts.orders();
         Checks.write(x, text);
         o.tape = text.getBytes(java.nio.charset.StandardCharsets.ISO_8859_1);
         if (law) {
@@ -130,28 +147,44 @@ public final class OracleTest {
     }
 
     private void change() {
-        int a, b, c;
+        int a, b;
         switch (random.nextInt(20)) {
             case 0: if (oneIn(6)) makeGate(); break;
             case 1: if (oneIn(4)) makeGoer(); break;
             case 2: a = upTo(2); b = upTo(oneIn(4) ? 999 : 9); due("terms", x.terms(a, b), o.terms(a, b)); break;
             case 3: a = upTo(5); due("force", x.force(a), o.force(a)); break;
             case 4: case 5: case 6: case 7: case 8:
-                a = aGoer(); b = aGate(); due("go", x.go(a, b), o.go(a, b)); break;
-            case 9: case 10: a = aGate(); due("latch", x.latch(a), o.latch(a)); break;
+                a = aGoer(); b = aGateFor(a); due("go", x.go(a, b), o.go(a, b)); break;
+            case 9: case 10: latch(); break;
             case 11: case 12: a = aGate(); b = upTo(9); due("set", x.set(a, b), o.set(a, b)); break;
             case 13: due("pass", x.pass(), o.pass()); break;
             case 14: case 15: due("undo", x.undo(), o.undo()); break;
-            case 16: a = upTo(9); b = upTo(19); c = oneIn(2) ? Math.max(0, b - 1) : upTo(19);
-                due("seen", x.seen(a, b, c), o.seen(a, b, c)); break;
-            case 17: due("forget", x.forget(), o.forget()); break;
+            case 16: see(); break;
+            case 17: if (!busy || oneIn(3)) due("forget", x.forget(), o.forget()); break;
             case 18: a = upTo(1); due("image", x.image(a), o.image(a)); break;
             default: a = upTo(1); due("back", x.back(a), o.back(a)); break;
         }
     }
 
+    /** If it is busy, shut gates are mostly opened again. */
+    private void latch() {
+        int gate = aGate();
+        if (!busy || !o.hasGate(gate) || !o.w.gates.get(gate).open || oneIn(3)) {
+            due("latch", x.latch(gate), o.latch(gate));
+        }
+    }
+
+    /** If it is busy, what is seen is mostly what a gate of kind 0, 1 or 2 would do. */
+    private void see() {
+        int arm = upTo(9), many = upTo(19), then = oneIn(2) ? Math.max(0, many - 1) : upTo(19);
+        if (busy && !oneIn(4)) {
+            then = Math.max(0, o.outcome(random.nextInt(3), arm, many));
+        }
+        due("seen", x.seen(arm, many, then), o.seen(arm, many, then));
+    }
+
     private void look() {
-        int a = aGoer(), p = upTo(5), m = many(), g = aGate(), n;
+        int a = aGoer(), p = busy ? aPark() : upTo(5), m = many(), g = aGate(), n;
         switch (random.nextInt(24)) {
             case 0: n = oneIn(2) ? -1 : upTo(5); due("way", x.way(a, p, m, n), o.way(a, p, m, n)); break;
             case 1: wholeWay(a, p, m); break;

@@ -27,6 +27,30 @@ final class Texts {
         return spoilt(text(1 + random.nextInt(oneIn(8) ? 14 : 4)));
     }
 
+    /** A law by which one goes on being another many. */
+    String livelyLaw() {
+        StringBuilder s = new StringBuilder("turns " + livelySum());
+        for (int i = random.nextInt(4); i > 0; i--) {
+            String test = livelySum() + "%" + (2 + random.nextInt(4)) + pick("=", "<", ">") + pick("1", "arm%3", "kind%2", "hurry", "goer");
+            s.append(";").append(pick("bars", "turns " + livelySum(), "pays " + livelySum(), "pays " + livelySum()));
+            s.append(" if ").append(test).append(oneIn(3) ? pick(" and ", " or ") + "arm>" + random.nextInt(8) : "");
+        }
+        return s.toString();
+    }
+
+    private String livelySum() {
+        int n = 1 + random.nextInt(7);
+        return pick("many+arm", "arm*2", "many+kind-arm", "[many*" + n + "+arm+kind]%20", "[many+" + n + "]%20",
+                "[many+gate+hurry]%20", "many+arm%3-goer", "19-many+day%3", "many/2+mood+kind", "many");
+    }
+
+    /** Orders by which goer 0 mostly goes through a gate. */
+    String livelyOrders(int gate) {
+        String go = "go 0 by " + Math.max(0, Math.min(gate, 1000));
+        return pick(go, go + ";pass;set 0 as [arm 0+1]%10", go + " times 20 if park 0=" + random.nextInt(3) + " and done<4",
+                go + ";go 0 by latest/3", "pass times 20 if day<" + random.nextInt(30) + ";" + go + " if whole<2;latch 1;latch 1");
+    }
+
     private String text(int clauses) {
         if (oneIn(12)) {
             return edge();
