@@ -9,7 +9,7 @@ public final class OracleTest {
     private final CountGates x = new CountGates();
     private final Oracle o = new Oracle();
     private final String name;
-    /** Few parks, many gates and lively laws, so that there are ways to find; else whatever comes. */
+    /** Few parks, many gates and lively laws, so that there are more ways to find; else whatever comes. */
     private final boolean busy;
 
     private OracleTest(Checks checks, long seed) {
